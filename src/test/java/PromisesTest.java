@@ -35,10 +35,12 @@ public final class PromisesTest {
         left();
         open();
         audit();
+        auditOfAll();
         drawn();
         unit();
         form();
         formLargest();
+        formCutOff();
         DUE.end();
     }
 
@@ -772,6 +774,9 @@ public final class PromisesTest {
         x.average(1, 1, 1);
         open(x, 2, 4, 3, -27, 10);
         open(x, 2, 4, 11, 0, 1);
+        x.average(1, 1, 10);
+        x.solve();
+        open(x, 2, 4, 3, -4527, 10);
         open(x, 2, 4, -1, 0, 0);
         open(x, 2, 4, -4, 0, 0);
         open(x, 2, 4, Integer.MIN_VALUE, 0, 0);
@@ -811,6 +816,24 @@ public final class PromisesTest {
                 seen[row] = true;
             }
         }
+    }
+
+    private static void auditOfAll() {
+        DUE.about("18 audit, of sixty");
+        RateChains x = withPlants(1);
+        for (int i = 0; i < 60; i++) {
+            x.feed(0, 0, i, 0, 0);
+        }
+        DUE.same("sixty", x.audit(Long.MIN_VALUE, 60), 60);
+        boolean[] seen = new boolean[60];
+        for (int k = 0; k < 60; k++) {
+            int row = x.drawn(k);
+            DUE.yes("row " + row + " once", row >= 0 && row < 60 && !seen[row]);
+            if (row >= 0 && row < 60) {
+                seen[row] = true;
+            }
+        }
+        DUE.same("drawn(60)", x.drawn(60), -1);
     }
 
     private static void drawn() {
@@ -921,5 +944,22 @@ public final class PromisesTest {
         }
         DUE.same("the last byte", x.form(form.length() - 1), '#');
         DUE.same("behind it", x.form(form.length()), -1);
+    }
+
+    /** A full text whose last bytes begin what stands for a number, but do not end it. */
+    private static void formCutOff() {
+        DUE.about("21 form, cut off");
+        String[] ends = {"a#", "#0", "##", "#1"};
+        for (String end : ends) {
+            RateChains x = new RateChains();
+            for (int i = 0; i < 198; i++) {
+                x.unit('.');
+            }
+            write(x, end);
+            x.solve();
+            DUE.same("form(198) of " + end, x.form(198), end.charAt(0));
+            DUE.same("form(199) of " + end, x.form(199), end.charAt(1));
+            DUE.same("form(200) of " + end, x.form(200), -1);
+        }
     }
 }
