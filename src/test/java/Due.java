@@ -22,6 +22,45 @@ final class Due {
         same(call, got ? 1 : 0, 0);
     }
 
+    void is(String call, boolean got, boolean want) {
+        same(call, got ? 1 : 0, want ? 1 : 0);
+    }
+
+    void counted(RateChains x, int kind, int year, long above, long below) {
+        fraction("counted(" + kind + ", " + year + ")",
+                x.counted(kind, year, 0), x.counted(kind, year, 1), above, below);
+    }
+
+    void rate(RateChains x, int kind, int year, long above, long below) {
+        fraction("rate(" + kind + ", " + year + ")",
+                x.rate(kind, year, 0), x.rate(kind, year, 1), above, below);
+    }
+
+    void open(RateChains x, int yearA, int yearB, int k, long above, long below) {
+        fraction("open(" + yearA + ", " + yearB + ", " + k + ")",
+                x.open(yearA, yearB, k, 0), x.open(yearA, yearB, k, 1), above, below);
+    }
+
+    private void fraction(String call, long above, long below, long dueAbove, long dueBelow) {
+        same(call + " above", above, dueAbove);
+        same(call + " below", below, dueBelow);
+    }
+
+    /** Adds bytes to the text, all of which are to be taken. */
+    void writes(RateChains x, String text) {
+        for (int i = 0; i < text.length(); i++) {
+            yes("unit(" + (int) text.charAt(i) + ")", x.unit(text.charAt(i)));
+        }
+    }
+
+    /** The form is this one, and no byte longer. */
+    void reads(RateChains x, String form) {
+        for (int i = 0; i < form.length(); i++) {
+            same("form(" + i + ")", x.form(i), form.charAt(i));
+        }
+        same("form(" + form.length() + ")", x.form(form.length()), -1);
+    }
+
     boolean anyWrong() {
         return wrong > 0;
     }

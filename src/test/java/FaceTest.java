@@ -66,9 +66,10 @@ public final class FaceTest {
                 && Modifier.isPublic(made[0].getModifiers()) && made[0].getParameterCount() == 0);
         for (Field field : RateChains.class.getDeclaredFields()) {
             boolean isNone = field.getName().equals("NONE");
-            DUE.yes(field + " is as due", isNone == Modifier.isPublic(field.getModifiers())
-                    && (isNone || Modifier.isPrivate(field.getModifiers()))
-                    && Modifier.isFinal(field.getModifiers()));
+            int is = field.getModifiers();
+            DUE.yes(field + " is as due", isNone
+                    ? Modifier.isPublic(is) && Modifier.isStatic(is) && Modifier.isFinal(is)
+                    : Modifier.isPrivate(is) && (Modifier.isFinal(is) || !Modifier.isStatic(is)));
         }
     }
 

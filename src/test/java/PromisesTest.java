@@ -1,11 +1,5 @@
 /** Each promise by itself: ordinary inputs, the edges that the document names, wrong inputs. */
 public final class PromisesTest {
-    private static final int[] NO_PLANTS = {-1, 5, 6, Integer.MIN_VALUE, Integer.MAX_VALUE};
-    private static final int[] NO_KINDS = {-1, 4, Integer.MIN_VALUE, Integer.MAX_VALUE};
-    private static final int[] NO_YEARS = {-1, 10, Integer.MIN_VALUE, Integer.MAX_VALUE};
-    private static final int[] NO_COUNTRIES = NO_KINDS;
-    private static final int[] NO_PARTS = {-1, 2, Integer.MIN_VALUE, Integer.MAX_VALUE};
-
     private static final Due DUE = new Due();
 
     public static void main(String[] args) {
@@ -44,52 +38,6 @@ public final class PromisesTest {
         DUE.end();
     }
 
-    private static RateChains withPlants(int count) {
-        RateChains x = new RateChains();
-        for (int i = 0; i < count; i++) {
-            x.plant();
-        }
-        return x;
-    }
-
-    private static boolean isFraction(long above, long below) {
-        boolean isBelow = below == 1 || below == 2 || below == 5 || below == 10;
-        return isBelow && above >= 0 && above <= below;
-    }
-
-    private static void fraction(String call, long above, long below, long dueAbove, long dueBelow) {
-        DUE.same(call + " above", above, dueAbove);
-        DUE.same(call + " below", below, dueBelow);
-    }
-
-    private static void counted(RateChains x, int kind, int year, long above, long below) {
-        fraction("counted(" + kind + ", " + year + ")",
-                x.counted(kind, year, 0), x.counted(kind, year, 1), above, below);
-    }
-
-    private static void rate(RateChains x, int kind, int year, long above, long below) {
-        fraction("rate(" + kind + ", " + year + ")",
-                x.rate(kind, year, 0), x.rate(kind, year, 1), above, below);
-    }
-
-    private static void open(RateChains x, int yearA, int yearB, int k, long above, long below) {
-        fraction("open(" + yearA + ", " + yearB + ", " + k + ")",
-                x.open(yearA, yearB, k, 0), x.open(yearA, yearB, k, 1), above, below);
-    }
-
-    private static void write(RateChains x, String text) {
-        for (int i = 0; i < text.length(); i++) {
-            DUE.yes("unit(" + (int) text.charAt(i) + ")", x.unit(text.charAt(i)));
-        }
-    }
-
-    private static void reads(RateChains x, String form) {
-        for (int i = 0; i < form.length(); i++) {
-            DUE.same("form(" + i + ")", x.form(i), form.charAt(i));
-        }
-        DUE.same("form(" + form.length() + ")", x.form(form.length()), -1);
-    }
-
     private static void newObject() {
         DUE.about("1 a new object");
         DUE.same("NONE", RateChains.NONE, -1);
@@ -109,7 +57,7 @@ public final class PromisesTest {
         DUE.no("point", x.point(0, 0));
         DUE.no("average", x.average(0, 1, 2));
         DUE.no("feed", x.feed(0, 0, 1, 0, 0));
-        RateChains other = withPlants(5);
+        RateChains other = Edges.withPlants(5);
         DUE.same("plant() of one object after another's five", x.plant(), 0);
         DUE.same("plant() of the other one", other.plant(), -1);
     }
@@ -129,13 +77,13 @@ public final class PromisesTest {
     private static void share() {
         DUE.about("3 share");
         for (long below = -12; below <= 21; below++) {
-            RateChains one = withPlants(2);
+            RateChains one = Edges.withPlants(2);
             for (long above = -2; above <= 21; above++) {
                 DUE.same("share(0, 1, " + above + ", " + below + ")",
-                        one.share(0, 1, above, below) ? 1 : 0, isFraction(above, below) ? 1 : 0);
+                        one.share(0, 1, above, below) ? 1 : 0, Edges.isFraction(above, below) ? 1 : 0);
             }
         }
-        RateChains x = withPlants(2);
+        RateChains x = Edges.withPlants(2);
         long[] belows = {1, 2, 5, 10};
         for (long below : belows) {
             DUE.no("share of the least long", x.share(0, 1, Long.MIN_VALUE, below));
@@ -145,7 +93,7 @@ public final class PromisesTest {
         DUE.no("share over 2^32 + 1", x.share(0, 1, 0, (1L << 32) + 1));
         DUE.no("share of 2^32 + 1", x.share(0, 1, (1L << 32) + 1, 1));
 
-        x = withPlants(3);
+        x = Edges.withPlants(3);
         DUE.yes("1/2 to 0", x.share(0, 0, 1, 2));
         DUE.yes("3/10 to 1", x.share(0, 1, 3, 10));
         DUE.no("3/10 to 2 too", x.share(0, 2, 3, 10));
@@ -160,12 +108,12 @@ public final class PromisesTest {
 
     private static void shareOfNoPlant() {
         DUE.about("3 share, of no plant");
-        RateChains x = withPlants(5);
-        for (int no : NO_PLANTS) {
+        RateChains x = Edges.withPlants(5);
+        for (int no : Edges.NO_PLANTS) {
             DUE.no("from " + no, x.share(no, 0, 1, 10));
             DUE.no("to " + no, x.share(0, no, 1, 10));
         }
-        x = withPlants(2);
+        x = Edges.withPlants(2);
         DUE.no("from one that is not there yet", x.share(2, 0, 1, 10));
         DUE.no("to one that is not there yet", x.share(0, 2, 1, 10));
         DUE.yes("what was refused took nothing", x.share(0, 1, 1, 1));
@@ -173,38 +121,38 @@ public final class PromisesTest {
 
     private static void point() {
         DUE.about("4 point");
-        RateChains x = withPlants(5);
+        RateChains x = Edges.withPlants(5);
         for (int plant = 0; plant < 5; plant++) {
             for (int kind = 0; kind < 4; kind++) {
                 DUE.yes("point(" + plant + ", " + kind + ")", x.point(plant, kind));
                 DUE.no("again", x.point(plant, kind));
             }
         }
-        for (int no : NO_PLANTS) {
+        for (int no : Edges.NO_PLANTS) {
             DUE.no("point of plant " + no, x.point(no, 0));
         }
-        x = withPlants(5);
-        for (int no : NO_KINDS) {
+        x = Edges.withPlants(5);
+        for (int no : Edges.NO_KINDS) {
             DUE.no("point of kind " + no, x.point(1, no));
         }
         DUE.yes("all of it counts there, whatever the shares and the average",
                 x.point(0, 2) && x.share(0, 1, 1, 1) && x.average(0, 1, 2)
                 && x.feed(0, 2, 7, 4, 1) && x.feed(0, 1, 7, 4, 1) && x.solve() == 0);
-        counted(x, 2, 4, 7, 1);
-        counted(x, 1, 4, 0, 1);
+        DUE.counted(x, 2, 4, 7, 1);
+        DUE.counted(x, 1, 4, 0, 1);
     }
 
     private static void average() {
         DUE.about("5 average");
         for (long below = -12; below <= 21; below++) {
-            RateChains one = withPlants(1);
+            RateChains one = Edges.withPlants(1);
             for (long above = -2; above <= 21; above++) {
                 DUE.same("average(0, " + above + ", " + below + ")",
-                        one.average(0, above, below) ? 1 : 0, isFraction(above, below) ? 1 : 0);
+                        one.average(0, above, below) ? 1 : 0, Edges.isFraction(above, below) ? 1 : 0);
             }
         }
-        RateChains x = withPlants(1);
-        for (int no : NO_PLANTS) {
+        RateChains x = Edges.withPlants(1);
+        for (int no : Edges.NO_PLANTS) {
             DUE.no("average of plant " + no, x.average(no, 1, 2));
         }
         DUE.no("average of one that is not there yet", x.average(1, 1, 2));
@@ -213,30 +161,30 @@ public final class PromisesTest {
         for (long[] row : rows) {
             DUE.yes("average", x.average(0, row[0], row[1]));
             x.solve();
-            counted(x, 0, 0, row[2], row[3]);
+            DUE.counted(x, 0, 0, row[2], row[3]);
         }
         DUE.no("one that is no fraction", x.average(0, 1, 3));
         x.solve();
-        counted(x, 0, 0, 6, 1);
+        DUE.counted(x, 0, 0, 6, 1);
         x.feed(0, 1, 3, 0, 0);
         x.solve();
-        counted(x, 1, 0, 9, 5);
+        DUE.counted(x, 1, 0, 9, 5);
     }
 
     private static void feed() {
         DUE.about("6 feed");
-        RateChains x = withPlants(2);
-        for (int no : NO_PLANTS) {
+        RateChains x = Edges.withPlants(2);
+        for (int no : Edges.NO_PLANTS) {
             DUE.no("plant " + no, x.feed(no, 0, 1, 0, 0));
         }
         DUE.no("a plant that is not there yet", x.feed(2, 0, 1, 0, 0));
-        for (int no : NO_KINDS) {
+        for (int no : Edges.NO_KINDS) {
             DUE.no("kind " + no, x.feed(0, no, 1, 0, 0));
         }
-        for (int no : NO_YEARS) {
+        for (int no : Edges.NO_YEARS) {
             DUE.no("year " + no, x.feed(0, 0, 1, no, 0));
         }
-        for (int no : NO_COUNTRIES) {
+        for (int no : Edges.NO_COUNTRIES) {
             DUE.no("country " + no, x.feed(0, 0, 1, 0, no));
         }
         long[] noGrams = {-1, 1000000001L, Long.MIN_VALUE, Long.MAX_VALUE, 1L << 32};
@@ -256,13 +204,13 @@ public final class PromisesTest {
         DUE.same("not one more", x.audit(1, 61), -1);
         x.point(0, 0);
         x.solve();
-        counted(x, 0, 0, 58, 1);
+        DUE.counted(x, 0, 0, 58, 1);
     }
 
     private static void metals() {
         DUE.about("7 metals");
-        RateChains x = withPlants(0);
-        for (int no : NO_YEARS) {
+        RateChains x = Edges.withPlants(0);
+        for (int no : Edges.NO_YEARS) {
             DUE.no("year " + no, x.metals(no, 1));
         }
         long[] noGrams = {-1, 1000000001L, Long.MIN_VALUE, Long.MAX_VALUE, 1L << 32};
@@ -271,15 +219,15 @@ public final class PromisesTest {
         }
         x.solve();
         for (int year = 0; year < 10; year++) {
-            counted(x, 3, year, 0, 1);
+            DUE.counted(x, 3, year, 0, 1);
             DUE.yes("metals", x.metals(year, 100 + year));
         }
-        counted(x, 3, 0, 0, 1);
+        DUE.counted(x, 3, 0, 0, 1);
         x.solve();
         for (int year = 0; year < 10; year++) {
-            counted(x, 3, year, 100 + year, 1);
+            DUE.counted(x, 3, year, 100 + year, 1);
             for (int kind = 0; kind < 3; kind++) {
-                counted(x, kind, year, 0, 1);
+                DUE.counted(x, kind, year, 0, 1);
             }
             DUE.same("of country 0", x.left(0, 3, year), 100 + year);
             DUE.same("of country 1", x.left(1, 3, year), 0);
@@ -288,18 +236,18 @@ public final class PromisesTest {
         DUE.yes("none", x.metals(5, 0));
         DUE.no("refused", x.metals(6, -1));
         x.solve();
-        counted(x, 3, 4, 1000000000L, 1);
-        counted(x, 3, 5, 0, 1);
-        counted(x, 3, 6, 106, 1);
+        DUE.counted(x, 3, 4, 1000000000L, 1);
+        DUE.counted(x, 3, 5, 0, 1);
+        DUE.counted(x, 3, 6, 106, 1);
     }
 
     private static void placed() {
         DUE.about("8 placed");
-        RateChains x = withPlants(1);
-        for (int no : NO_KINDS) {
+        RateChains x = Edges.withPlants(1);
+        for (int no : Edges.NO_KINDS) {
             DUE.no("kind " + no, x.placed(no, 0, 1));
         }
-        for (int no : NO_YEARS) {
+        for (int no : Edges.NO_YEARS) {
             DUE.no("year " + no, x.placed(0, no, 1));
         }
         long[] noGrams = {-1, 100000000001L, Long.MIN_VALUE, Long.MAX_VALUE};
@@ -309,24 +257,24 @@ public final class PromisesTest {
         x.point(0, 1);
         x.feed(0, 1, 1, 2, 0);
         x.solve();
-        rate(x, 1, 2, 0, 0);
+        DUE.rate(x, 1, 2, 0, 0);
         DUE.yes("most", x.placed(1, 2, 100000000000L));
-        rate(x, 1, 2, 1, 100000000000L);
+        DUE.rate(x, 1, 2, 1, 100000000000L);
         DUE.yes("another kind and year", x.placed(2, 1, 5));
-        rate(x, 1, 2, 1, 100000000000L);
+        DUE.rate(x, 1, 2, 1, 100000000000L);
         DUE.no("refused", x.placed(1, 2, -1));
-        rate(x, 1, 2, 1, 100000000000L);
+        DUE.rate(x, 1, 2, 1, 100000000000L);
         DUE.yes("4", x.placed(1, 2, 4));
-        rate(x, 1, 2, 1, 4);
+        DUE.rate(x, 1, 2, 1, 4);
         DUE.yes("none again", x.placed(1, 2, 0));
-        rate(x, 1, 2, 0, 0);
+        DUE.rate(x, 1, 2, 0, 0);
     }
 
     private static void solveStands() {
         DUE.about("9 solve, stands");
         DUE.same("no plants", new RateChains().solve(), 0);
-        DUE.same("bare plants", withPlants(5).solve(), 0);
-        RateChains x = withPlants(3);
+        DUE.same("bare plants", Edges.withPlants(5).solve(), 0);
+        RateChains x = Edges.withPlants(3);
         x.share(0, 1, 1, 1);
         x.share(1, 2, 1, 1);
         x.share(2, 0, 9, 10);
@@ -338,7 +286,7 @@ public final class PromisesTest {
             x.point(1, kind);
         }
         DUE.same("with a point of all kinds", x.solve(), 0);
-        x = withPlants(2);
+        x = Edges.withPlants(2);
         x.average(0, 0, 1);
         x.share(0, 0, 1, 1);
         DUE.same("an average does not open a ring", x.solve(), 1);
@@ -347,11 +295,11 @@ public final class PromisesTest {
     private static void solveRings() {
         DUE.about("9 solve, rings");
         for (int plant = 0; plant < 5; plant++) {
-            RateChains x = withPlants(5);
+            RateChains x = Edges.withPlants(5);
             x.share(plant, plant, 1, 1);
             DUE.same("round itself", x.solve(), 1 + plant);
         }
-        RateChains x = withPlants(5);
+        RateChains x = Edges.withPlants(5);
         x.share(4, 3, 1, 1);
         x.share(3, 4, 1, 1);
         DUE.same("3 and 4", x.solve(), 4);
@@ -366,7 +314,7 @@ public final class PromisesTest {
         x.share(2, 1, 1, 1);
         DUE.same("of 0 all goes into rings", x.solve(), 1);
 
-        x = withPlants(5);
+        x = Edges.withPlants(5);
         x.share(1, 1, 1, 1);
         x.share(3, 3, 1, 1);
         x.point(1, 0);
@@ -376,7 +324,7 @@ public final class PromisesTest {
         x.point(1, 2);
         DUE.same("the other one", x.solve(), 4);
 
-        x = withPlants(5);
+        x = Edges.withPlants(5);
         x.share(0, 1, 1, 1);
         x.share(1, 2, 1, 1);
         x.share(2, 3, 1, 1);
@@ -390,7 +338,7 @@ public final class PromisesTest {
 
     private static void solveKeepsWhatWasSolved() {
         DUE.about("9 solve, what was solved stays");
-        RateChains x = withPlants(2);
+        RateChains x = Edges.withPlants(2);
         x.point(0, 0);
         x.feed(0, 0, 50, 3, 0);
         x.share(1, 1, 1, 1);
@@ -402,17 +350,17 @@ public final class PromisesTest {
         x.share(1, 1, 1, 1);
         x.feed(0, 0, 50, 3, 0);
         DUE.same("a ring again", x.solve(), 2);
-        counted(x, 0, 3, 50, 1);
+        DUE.counted(x, 0, 3, 50, 1);
         DUE.same("claims stay, too", x.left(0, 0, 3), 30);
         x.share(1, 1, 0, 1);
         DUE.same("none again", x.solve(), 0);
-        counted(x, 0, 3, 100, 1);
+        DUE.counted(x, 0, 3, 100, 1);
         DUE.same("claims are forgotten", x.left(0, 0, 3), 100);
     }
 
     private static void counted() {
         DUE.about("10 counted");
-        RateChains x = withPlants(3);
+        RateChains x = Edges.withPlants(3);
         x.share(0, 1, 1, 2);
         x.share(0, 0, 1, 5);
         x.share(1, 0, 1, 10);
@@ -430,45 +378,45 @@ public final class PromisesTest {
         x.feed(2, 1, 9, 3, 3);
         DUE.same("counted before it was solved", x.counted(0, 0, 0), -1);
         x.solve();
-        counted(x, 0, 0, 2, 5);
-        counted(x, 0, 1, 16, 25);
-        counted(x, 0, 2, 1, 1);
-        counted(x, 0, 3, 76, 25);
-        counted(x, 0, 4, 0, 1);
-        counted(x, 1, 3, 0, 1);
-        for (int no : NO_KINDS) {
+        DUE.counted(x, 0, 0, 2, 5);
+        DUE.counted(x, 0, 1, 16, 25);
+        DUE.counted(x, 0, 2, 1, 1);
+        DUE.counted(x, 0, 3, 76, 25);
+        DUE.counted(x, 0, 4, 0, 1);
+        DUE.counted(x, 1, 3, 0, 1);
+        for (int no : Edges.NO_KINDS) {
             DUE.same("kind " + no, x.counted(no, 0, 0), -1);
         }
-        for (int no : NO_YEARS) {
+        for (int no : Edges.NO_YEARS) {
             DUE.same("year " + no, x.counted(0, no, 0), -1);
         }
-        for (int no : NO_PARTS) {
+        for (int no : Edges.NO_PARTS) {
             DUE.same("part " + no, x.counted(0, 0, no), -1);
         }
     }
 
     private static void countedByAverages() {
         DUE.about("10 counted, by averages");
-        RateChains x = withPlants(3);
+        RateChains x = Edges.withPlants(3);
         x.average(0, 1, 5);
         x.average(1, 1, 2);
         x.share(0, 1, 1, 2);
         x.feed(0, 0, 100, 0, 0);
         x.feed(2, 0, 100, 1, 0);
         x.solve();
-        counted(x, 0, 0, 25, 1);
-        counted(x, 0, 1, 0, 1);
+        DUE.counted(x, 0, 0, 25, 1);
+        DUE.counted(x, 0, 1, 0, 1);
         x.share(0, 1, 0, 10);
         x.solve();
-        counted(x, 0, 0, 80, 1);
+        DUE.counted(x, 0, 0, 80, 1);
         x.share(0, 2, 1, 10);
         x.solve();
-        counted(x, 0, 0, 0, 1);
+        DUE.counted(x, 0, 0, 0, 1);
     }
 
     private static void countedAsItWasSolved() {
         DUE.about("10 counted, as it was solved");
-        RateChains x = withPlants(2);
+        RateChains x = Edges.withPlants(2);
         x.average(0, 1, 2);
         x.feed(0, 3, 10, 0, 0);
         x.metals(0, 3);
@@ -478,15 +426,15 @@ public final class PromisesTest {
         x.metals(0, 4);
         x.share(0, 1, 1, 1);
         x.point(0, 3);
-        counted(x, 3, 0, 8, 1);
+        DUE.counted(x, 3, 0, 8, 1);
         x.solve();
-        counted(x, 3, 0, 24, 1);
+        DUE.counted(x, 3, 0, 24, 1);
     }
 
     /** Five plants and sixty feeds of the most grams: the greatest numbers that can come up. */
     private static void countedLargest() {
         DUE.about("10 and 11, the largest");
-        RateChains x = withPlants(5);
+        RateChains x = Edges.withPlants(5);
         x.share(0, 1, 7, 10);
         x.share(1, 2, 7, 10);
         x.share(2, 3, 7, 10);
@@ -499,9 +447,9 @@ public final class PromisesTest {
         x.placed(3, 0, 99999999999L);
         x.solve();
         // 6 * 10^10 * 16807 / 10^5 + 999999999
-        counted(x, 3, 0, 10084200000L + 999999999L, 1);
-        rate(x, 3, 0, 11084199999L / 3, 99999999999L / 3);
-        x = withPlants(5);
+        DUE.counted(x, 3, 0, 10084200000L + 999999999L, 1);
+        DUE.rate(x, 3, 0, 11084199999L / 3, 99999999999L / 3);
+        x = Edges.withPlants(5);
         x.share(0, 1, 7, 10);
         x.share(1, 2, 7, 10);
         x.share(2, 3, 7, 10);
@@ -510,13 +458,13 @@ public final class PromisesTest {
         x.feed(0, 3, 999999999L, 0, 0);
         x.placed(3, 0, 100000000000L);
         x.solve();
-        counted(x, 3, 0, 999999999L * 16807, 100000);
-        rate(x, 3, 0, 999999999L * 16807, 10000000000000000L);
+        DUE.counted(x, 3, 0, 999999999L * 16807, 100000);
+        DUE.rate(x, 3, 0, 999999999L * 16807, 10000000000000000L);
     }
 
     private static void rate() {
         DUE.about("11 rate");
-        RateChains x = withPlants(1);
+        RateChains x = Edges.withPlants(1);
         x.average(0, 1, 2);
         x.feed(0, 3, 30, 1, 0);
         x.feed(0, 3, 1000, 1, 1);
@@ -526,18 +474,18 @@ public final class PromisesTest {
         DUE.same("before it was solved", x.rate(3, 1, 0), -1);
         DUE.same("before it was solved, nothing placed", x.rate(3, 2, 0), -1);
         x.solve();
-        rate(x, 3, 1, 5, 2);
-        rate(x, 0, 1, 0, 1);
-        rate(x, 3, 2, 0, 0);
+        DUE.rate(x, 3, 1, 5, 2);
+        DUE.rate(x, 0, 1, 0, 1);
+        DUE.rate(x, 3, 2, 0, 0);
         x.placed(3, 1, 100);
-        rate(x, 3, 1, 1, 5);
-        for (int no : NO_KINDS) {
+        DUE.rate(x, 3, 1, 1, 5);
+        for (int no : Edges.NO_KINDS) {
             DUE.same("kind " + no, x.rate(no, 0, 0), -1);
         }
-        for (int no : NO_YEARS) {
+        for (int no : Edges.NO_YEARS) {
             DUE.same("year " + no, x.rate(0, no, 0), -1);
         }
-        for (int no : NO_PARTS) {
+        for (int no : Edges.NO_PARTS) {
             DUE.same("part " + no, x.rate(3, 1, no), -1);
             DUE.same("part " + no + ", nothing placed", x.rate(3, 2, no), -1);
         }
@@ -545,7 +493,7 @@ public final class PromisesTest {
 
     private static void twice() {
         DUE.about("12 twice");
-        RateChains x = withPlants(5);
+        RateChains x = Edges.withPlants(5);
         x.point(3, 2);
         x.point(1, 3);
         x.point(1, 0);
@@ -576,7 +524,7 @@ public final class PromisesTest {
 
     private static void told() {
         DUE.about("13 told");
-        RateChains x = withPlants(5);
+        RateChains x = Edges.withPlants(5);
         x.share(0, 1, 1, 10);
         x.share(1, 4, 1, 10);
         x.share(3, 2, 1, 2);
@@ -605,7 +553,7 @@ public final class PromisesTest {
         DUE.same("-1", x.told(-1), -1);
         DUE.same("least", x.told(Integer.MIN_VALUE), -1);
         DUE.same("most", x.told(Integer.MAX_VALUE), -1);
-        x = withPlants(5);
+        x = Edges.withPlants(5);
         for (int plant = 0; plant < 4; plant++) {
             x.share(4 - plant, 3 - plant, 1, 10);
         }
@@ -616,7 +564,7 @@ public final class PromisesTest {
 
     private static void toldAsItWasSolved() {
         DUE.about("13 told, as it was solved");
-        RateChains x = withPlants(2);
+        RateChains x = Edges.withPlants(2);
         x.feed(0, 0, 1, 0, 0);
         DUE.same("nothing was solved", x.told(0), -1);
         x.solve();
@@ -635,7 +583,7 @@ public final class PromisesTest {
     /** By the terms no worth is above 1, so there is no run of calls that answers false. */
     private static void once() {
         DUE.about("14 once");
-        RateChains x = withPlants(5);
+        RateChains x = Edges.withPlants(5);
         DUE.yes("nothing was solved", x.once());
         for (int kind = 0; kind < 4; kind++) {
             x.point(4, kind);
@@ -659,7 +607,7 @@ public final class PromisesTest {
 
     private static void claim() {
         DUE.about("15 claim");
-        RateChains x = withPlants(1);
+        RateChains x = Edges.withPlants(1);
         x.point(0, 1);
         for (int year = 0; year < 10; year++) {
             x.feed(0, 1, 10 + year, year, 2);
@@ -687,12 +635,12 @@ public final class PromisesTest {
         DUE.same("a part of year 8", x.left(2, 1, 8), 17);
         DUE.same("another country", x.claim(1, 1, 9, 1), -1);
         DUE.same("another kind", x.claim(2, 0, 9, 1), -1);
-        counted(x, 1, 9, 19, 1);
+        DUE.counted(x, 1, 9, 19, 1);
     }
 
     private static void claimEdges() {
         DUE.about("15 claim, edges");
-        RateChains x = withPlants(1);
+        RateChains x = Edges.withPlants(1);
         x.point(0, 0);
         x.feed(0, 0, 10, 0, 0);
         x.solve();
@@ -701,13 +649,13 @@ public final class PromisesTest {
             DUE.same(no + " grams", x.claim(0, 0, 0, no), -1);
         }
         DUE.same("most grams", x.claim(0, 0, 0, 1000000000000L), -1);
-        for (int no : NO_COUNTRIES) {
+        for (int no : Edges.NO_COUNTRIES) {
             DUE.same("country " + no, x.claim(no, 0, 0, 1), -1);
         }
-        for (int no : NO_KINDS) {
+        for (int no : Edges.NO_KINDS) {
             DUE.same("kind " + no, x.claim(0, no, 0, 1), -1);
         }
-        for (int no : NO_YEARS) {
+        for (int no : Edges.NO_YEARS) {
             DUE.same("year " + no, x.claim(0, 0, no, 1), -1);
         }
         DUE.same("nothing was taken", x.left(0, 0, 0), 10);
@@ -717,7 +665,7 @@ public final class PromisesTest {
 
     private static void left() {
         DUE.about("16 left");
-        RateChains x = withPlants(1);
+        RateChains x = Edges.withPlants(1);
         x.average(0, 1, 10);
         x.feed(0, 3, 5, 0, 0);
         x.feed(0, 3, 4, 0, 0);
@@ -734,20 +682,20 @@ public final class PromisesTest {
         DUE.same("less the claim", x.left(0, 3, 0), 6);
         x.feed(0, 3, 100, 0, 0);
         DUE.same("as it was solved", x.left(0, 3, 0), 6);
-        for (int no : NO_COUNTRIES) {
+        for (int no : Edges.NO_COUNTRIES) {
             DUE.same("country " + no, x.left(no, 3, 0), -1);
         }
-        for (int no : NO_KINDS) {
+        for (int no : Edges.NO_KINDS) {
             DUE.same("kind " + no, x.left(0, no, 0), -1);
         }
-        for (int no : NO_YEARS) {
+        for (int no : Edges.NO_YEARS) {
             DUE.same("year " + no, x.left(0, 3, no), -1);
         }
     }
 
     private static void open() {
         DUE.about("17 open");
-        RateChains x = withPlants(2);
+        RateChains x = Edges.withPlants(2);
         x.share(0, 1, 1, 2);
         x.average(1, 1, 10);
         x.feed(0, 3, 7, 2, 0);
@@ -756,43 +704,43 @@ public final class PromisesTest {
         x.feed(1, 3, 1, 4, 1);
         x.feed(0, 2, 100, 4, 1);
         x.metals(4, 1000);
-        open(x, 2, 4, 3, 0, 0);
+        DUE.open(x, 2, 4, 3, 0, 0);
         x.solve();
-        open(x, 2, 4, 3, -27, 10);
-        open(x, 4, 2, 3, 27, 10);
-        open(x, 2, 4, 7, 9, 10);
-        open(x, 4, 4, 7, 0, 1);
-        open(x, 2, 4, 2, 45, 1);
-        open(x, 0, 9, 0, 0, 1);
-        open(x, 2, 4, 8, 0, 0);
+        DUE.open(x, 2, 4, 3, -27, 10);
+        DUE.open(x, 4, 2, 3, 27, 10);
+        DUE.open(x, 2, 4, 7, 9, 10);
+        DUE.open(x, 4, 4, 7, 0, 1);
+        DUE.open(x, 2, 4, 2, 45, 1);
+        DUE.open(x, 0, 9, 0, 0, 1);
+        DUE.open(x, 2, 4, 8, 0, 0);
         x.plant();
-        open(x, 2, 4, 8, 0, 1);
-        open(x, 2, 4, 11, 0, 1);
-        open(x, 2, 4, 12, 0, 0);
+        DUE.open(x, 2, 4, 8, 0, 1);
+        DUE.open(x, 2, 4, 11, 0, 1);
+        DUE.open(x, 2, 4, 12, 0, 0);
         x.feed(0, 3, 1000, 2, 0);
         x.feed(2, 3, 1000, 2, 0);
         x.average(1, 1, 1);
-        open(x, 2, 4, 3, -27, 10);
-        open(x, 2, 4, 11, 0, 1);
+        DUE.open(x, 2, 4, 3, -27, 10);
+        DUE.open(x, 2, 4, 11, 0, 1);
         x.average(1, 1, 10);
         x.solve();
-        open(x, 2, 4, 3, -4527, 10);
-        open(x, 2, 4, -1, 0, 0);
-        open(x, 2, 4, -4, 0, 0);
-        open(x, 2, 4, Integer.MIN_VALUE, 0, 0);
-        open(x, 2, 4, Integer.MAX_VALUE, 0, 0);
-        for (int no : NO_YEARS) {
-            open(x, no, 4, 3, 0, 0);
-            open(x, 2, no, 3, 0, 0);
+        DUE.open(x, 2, 4, 3, -4527, 10);
+        DUE.open(x, 2, 4, -1, 0, 0);
+        DUE.open(x, 2, 4, -4, 0, 0);
+        DUE.open(x, 2, 4, Integer.MIN_VALUE, 0, 0);
+        DUE.open(x, 2, 4, Integer.MAX_VALUE, 0, 0);
+        for (int no : Edges.NO_YEARS) {
+            DUE.open(x, no, 4, 3, 0, 0);
+            DUE.open(x, 2, no, 3, 0, 0);
         }
-        for (int no : NO_PARTS) {
+        for (int no : Edges.NO_PARTS) {
             DUE.same("part " + no, x.open(2, 4, 3, no), 0);
         }
     }
 
     private static void audit() {
         DUE.about("18 audit");
-        RateChains x = withPlants(1);
+        RateChains x = Edges.withPlants(1);
         DUE.same("no feeds", x.audit(0, 0), -1);
         for (int i = 0; i < 7; i++) {
             x.feed(0, 0, i, 0, 0);
@@ -820,7 +768,7 @@ public final class PromisesTest {
 
     private static void auditOfAll() {
         DUE.about("18 audit, of sixty");
-        RateChains x = withPlants(1);
+        RateChains x = Edges.withPlants(1);
         for (int i = 0; i < 60; i++) {
             x.feed(0, 0, i, 0, 0);
         }
@@ -838,7 +786,7 @@ public final class PromisesTest {
 
     private static void drawn() {
         DUE.about("19 drawn");
-        RateChains x = withPlants(1);
+        RateChains x = Edges.withPlants(1);
         for (int i = 0; i < 4; i++) {
             x.feed(0, 0, i, 0, 0);
         }
@@ -886,42 +834,42 @@ public final class PromisesTest {
 
     private static void form() {
         DUE.about("21 form");
-        RateChains x = withPlants(1);
+        RateChains x = Edges.withPlants(1);
         x.average(0, 1, 10);
         x.feed(0, 0, 1, 0, 0);
         x.feed(0, 0, 1, 0, 1);
         x.feed(0, 1, 1000, 9, 3);
         x.feed(0, 2, 12, 3, 3);
         x.metals(9, 1000000000L);
-        write(x, "a#00b##19#2#23#39x#40#0:#4/#/0#9");
-        reads(x, "a-b#-#2--x#40#0:#4/#/0#9");
+        DUE.writes(x, "a#00b##19#2#23#39x#40#0:#4/#/0#9");
+        DUE.reads(x, "a-b#-#2--x#40#0:#4/#/0#9");
         x.share(0, 0, 1, 1);
         x.solve();
-        reads(x, "a-b#-#2--x#40#0:#4/#/0#9");
+        DUE.reads(x, "a-b#-#2--x#40#0:#4/#/0#9");
         x.share(0, 0, 0, 1);
         x.solve();
-        reads(x, "a1b#900#2101000000000x#40#0:#4/#/0#9");
+        DUE.reads(x, "a1b#900#2101000000000x#40#0:#4/#/0#9");
         DUE.same("form(-1)", x.form(-1), -1);
         DUE.same("least", x.form(Integer.MIN_VALUE), -1);
         DUE.same("most", x.form(Integer.MAX_VALUE), -1);
-        write(x, "9#");
+        DUE.writes(x, "9#");
         x.claim(0, 3, 9, 5);
         x.metals(9, 0);
-        reads(x, "a1b#900#2101000000000x#40#0:#4/#/0#99#");
-        x = withPlants(0);
-        write(x, "#0");
-        reads(x, "#0");
-        write(x, "0");
-        reads(x, "-");
-        write(x, "#01#0");
-        reads(x, "--#0");
+        DUE.reads(x, "a1b#900#2101000000000x#40#0:#4/#/0#99#");
+        x = Edges.withPlants(0);
+        DUE.writes(x, "#0");
+        DUE.reads(x, "#0");
+        DUE.writes(x, "0");
+        DUE.reads(x, "-");
+        DUE.writes(x, "#01#0");
+        DUE.reads(x, "--#0");
         x.solve();
-        reads(x, "00#0");
+        DUE.reads(x, "00#0");
     }
 
     private static void formLargest() {
         DUE.about("21 form, the longest");
-        RateChains x = withPlants(1);
+        RateChains x = Edges.withPlants(1);
         x.point(0, 3);
         for (int i = 0; i < 60; i++) {
             x.feed(0, 3, 1000000000L, 0, i % 4);
@@ -936,7 +884,7 @@ public final class PromisesTest {
         }
         text.append("##");
         form.append("##");
-        write(x, text.toString());
+        DUE.writes(x, text.toString());
         DUE.no("no room for more", x.unit('#'));
         // Every fifth byte keeps the object within its 512 calls.
         for (int i = 0; i < form.length(); i += 5) {
@@ -955,7 +903,7 @@ public final class PromisesTest {
             for (int i = 0; i < 198; i++) {
                 x.unit('.');
             }
-            write(x, end);
+            DUE.writes(x, end);
             x.solve();
             DUE.same("form(198) of " + end, x.form(198), end.charAt(0));
             DUE.same("form(199) of " + end, x.form(199), end.charAt(1));
