@@ -662,7 +662,7 @@ public final class RateChains {
         }
 
         private static int place(int country, int kind, int year) {
-            return country * KINDS * YEARS + cell(kind, year);
+            return (country * KINDS + kind) * YEARS + year;
         }
     }
 

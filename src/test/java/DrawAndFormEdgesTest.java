@@ -36,6 +36,7 @@ public final class DrawAndFormEdgesTest {
         formOfDigits();
         formOfMarksInARow();
         formCutOff();
+        formCutOffWhenFull();
         formOfAllOtherBytes();
         formAsItWasSolved();
         formShorterAndLonger();
@@ -378,16 +379,24 @@ public final class DrawAndFormEdgesTest {
         DUE.reads(x, "#3");
         DUE.writes(x, "9");
         DUE.reads(x, "0");
-        RateChains full = new RateChains();
-        for (int at = 0; at < 197; at++) {
-            full.unit('.');
+    }
+
+    private static void formCutOffWhenFull() {
+        DUE.about("the terms: the last bytes of a full text");
+        String[][] rows = {{"#39", "0"}, {".#3", ".#3"}, {"..#", "..#"}, {".##", ".##"}, {"#3.", "#3."}, {"#4#", "#4#"}};
+        for (String[] row : rows) {
+            RateChains x = new RateChains();
+            for (int at = 0; at < 197; at++) {
+                x.unit('.');
+            }
+            DUE.writes(x, row[0]);
+            DUE.no("no room for more", x.unit('0'));
+            x.solve();
+            for (int at = 0; at < row[1].length(); at++) {
+                DUE.same(row[0] + ", form(197 + " + at + ")", x.form(197 + at), row[1].charAt(at));
+            }
+            DUE.same(row[0] + ", behind it", x.form(197 + row[1].length()), -1);
         }
-        DUE.writes(full, "#39");
-        DUE.same("form(197)", full.form(197), '-');
-        DUE.same("form(198)", full.form(198), -1);
-        full.solve();
-        DUE.same("form(197), solved", full.form(197), '0');
-        DUE.same("form(198), solved", full.form(198), -1);
     }
 
     private static void formOfAllOtherBytes() {

@@ -1,4 +1,4 @@
-/** Each promise by itself: ordinary inputs, the edges that the document names, wrong inputs. */
+/** Each promise by itself, in ordinary use; its boundary cases stand in the tests of edges. */
 public final class PromisesTest {
     private static final Due DUE = new Due();
 
@@ -6,7 +6,6 @@ public final class PromisesTest {
         newObject();
         plant();
         share();
-        shareOfNoPlant();
         point();
         average();
         feed();
@@ -25,16 +24,13 @@ public final class PromisesTest {
         toldAsItWasSolved();
         once();
         claim();
-        claimEdges();
         left();
         open();
         audit();
-        auditOfAll();
         drawn();
         unit();
         form();
         formLargest();
-        formCutOff();
         DUE.end();
     }
 
@@ -106,19 +102,6 @@ public final class PromisesTest {
         DUE.yes("another plant's shares are its own", x.share(1, 0, 1, 1));
     }
 
-    private static void shareOfNoPlant() {
-        DUE.about("3 share, of no plant");
-        RateChains x = Edges.withPlants(5);
-        for (int no : Edges.NO_PLANTS) {
-            DUE.no("from " + no, x.share(no, 0, 1, 10));
-            DUE.no("to " + no, x.share(0, no, 1, 10));
-        }
-        x = Edges.withPlants(2);
-        DUE.no("from one that is not there yet", x.share(2, 0, 1, 10));
-        DUE.no("to one that is not there yet", x.share(0, 2, 1, 10));
-        DUE.yes("what was refused took nothing", x.share(0, 1, 1, 1));
-    }
-
     private static void point() {
         DUE.about("4 point");
         RateChains x = Edges.withPlants(5);
@@ -128,13 +111,7 @@ public final class PromisesTest {
                 DUE.no("again", x.point(plant, kind));
             }
         }
-        for (int no : Edges.NO_PLANTS) {
-            DUE.no("point of plant " + no, x.point(no, 0));
-        }
         x = Edges.withPlants(5);
-        for (int no : Edges.NO_KINDS) {
-            DUE.no("point of kind " + no, x.point(1, no));
-        }
         DUE.yes("all of it counts there, whatever the shares and the average",
                 x.point(0, 2) && x.share(0, 1, 1, 1) && x.average(0, 1, 2)
                 && x.feed(0, 2, 7, 4, 1) && x.feed(0, 1, 7, 4, 1) && x.solve() == 0);
@@ -152,9 +129,6 @@ public final class PromisesTest {
             }
         }
         RateChains x = Edges.withPlants(1);
-        for (int no : Edges.NO_PLANTS) {
-            DUE.no("average of plant " + no, x.average(no, 1, 2));
-        }
         DUE.no("average of one that is not there yet", x.average(1, 1, 2));
         x.feed(0, 0, 10, 0, 0);
         long[][] rows = {{3, 10, 7, 1}, {1, 1, 0, 1}, {0, 5, 10, 1}, {1, 2, 5, 1}, {2, 5, 6, 1}};
@@ -174,23 +148,7 @@ public final class PromisesTest {
     private static void feed() {
         DUE.about("6 feed");
         RateChains x = Edges.withPlants(2);
-        for (int no : Edges.NO_PLANTS) {
-            DUE.no("plant " + no, x.feed(no, 0, 1, 0, 0));
-        }
         DUE.no("a plant that is not there yet", x.feed(2, 0, 1, 0, 0));
-        for (int no : Edges.NO_KINDS) {
-            DUE.no("kind " + no, x.feed(0, no, 1, 0, 0));
-        }
-        for (int no : Edges.NO_YEARS) {
-            DUE.no("year " + no, x.feed(0, 0, 1, no, 0));
-        }
-        for (int no : Edges.NO_COUNTRIES) {
-            DUE.no("country " + no, x.feed(0, 0, 1, 0, no));
-        }
-        long[] noGrams = {-1, 1000000001L, Long.MIN_VALUE, Long.MAX_VALUE, 1L << 32};
-        for (long no : noGrams) {
-            DUE.no(no + " grams", x.feed(0, 0, no, 0, 0));
-        }
         DUE.same("no row was made by any of them", x.audit(1, 1), -1);
         DUE.yes("0 grams", x.feed(0, 0, 0, 0, 0));
         DUE.yes("most grams", x.feed(1, 3, 1000000000L, 9, 3));
@@ -210,13 +168,6 @@ public final class PromisesTest {
     private static void metals() {
         DUE.about("7 metals");
         RateChains x = Edges.withPlants(0);
-        for (int no : Edges.NO_YEARS) {
-            DUE.no("year " + no, x.metals(no, 1));
-        }
-        long[] noGrams = {-1, 1000000001L, Long.MIN_VALUE, Long.MAX_VALUE, 1L << 32};
-        for (long no : noGrams) {
-            DUE.no(no + " grams", x.metals(0, no));
-        }
         x.solve();
         for (int year = 0; year < 10; year++) {
             DUE.counted(x, 3, year, 0, 1);
@@ -244,16 +195,6 @@ public final class PromisesTest {
     private static void placed() {
         DUE.about("8 placed");
         RateChains x = Edges.withPlants(1);
-        for (int no : Edges.NO_KINDS) {
-            DUE.no("kind " + no, x.placed(no, 0, 1));
-        }
-        for (int no : Edges.NO_YEARS) {
-            DUE.no("year " + no, x.placed(0, no, 1));
-        }
-        long[] noGrams = {-1, 100000000001L, Long.MIN_VALUE, Long.MAX_VALUE};
-        for (long no : noGrams) {
-            DUE.no(no + " grams", x.placed(0, 0, no));
-        }
         x.point(0, 1);
         x.feed(0, 1, 1, 2, 0);
         x.solve();
@@ -384,15 +325,6 @@ public final class PromisesTest {
         DUE.counted(x, 0, 3, 76, 25);
         DUE.counted(x, 0, 4, 0, 1);
         DUE.counted(x, 1, 3, 0, 1);
-        for (int no : Edges.NO_KINDS) {
-            DUE.same("kind " + no, x.counted(no, 0, 0), -1);
-        }
-        for (int no : Edges.NO_YEARS) {
-            DUE.same("year " + no, x.counted(0, no, 0), -1);
-        }
-        for (int no : Edges.NO_PARTS) {
-            DUE.same("part " + no, x.counted(0, 0, no), -1);
-        }
     }
 
     private static void countedByAverages() {
@@ -479,16 +411,6 @@ public final class PromisesTest {
         DUE.rate(x, 3, 2, 0, 0);
         x.placed(3, 1, 100);
         DUE.rate(x, 3, 1, 1, 5);
-        for (int no : Edges.NO_KINDS) {
-            DUE.same("kind " + no, x.rate(no, 0, 0), -1);
-        }
-        for (int no : Edges.NO_YEARS) {
-            DUE.same("year " + no, x.rate(0, no, 0), -1);
-        }
-        for (int no : Edges.NO_PARTS) {
-            DUE.same("part " + no, x.rate(3, 1, no), -1);
-            DUE.same("part " + no + ", nothing placed", x.rate(3, 2, no), -1);
-        }
     }
 
     private static void twice() {
@@ -638,31 +560,6 @@ public final class PromisesTest {
         DUE.counted(x, 1, 9, 19, 1);
     }
 
-    private static void claimEdges() {
-        DUE.about("15 claim, edges");
-        RateChains x = Edges.withPlants(1);
-        x.point(0, 0);
-        x.feed(0, 0, 10, 0, 0);
-        x.solve();
-        long[] noGrams = {0, -1, 1000000000001L, Long.MIN_VALUE, Long.MAX_VALUE};
-        for (long no : noGrams) {
-            DUE.same(no + " grams", x.claim(0, 0, 0, no), -1);
-        }
-        DUE.same("most grams", x.claim(0, 0, 0, 1000000000000L), -1);
-        for (int no : Edges.NO_COUNTRIES) {
-            DUE.same("country " + no, x.claim(no, 0, 0, 1), -1);
-        }
-        for (int no : Edges.NO_KINDS) {
-            DUE.same("kind " + no, x.claim(0, no, 0, 1), -1);
-        }
-        for (int no : Edges.NO_YEARS) {
-            DUE.same("year " + no, x.claim(0, 0, no, 1), -1);
-        }
-        DUE.same("nothing was taken", x.left(0, 0, 0), 10);
-        DUE.same("one", x.claim(0, 0, 2, 1), 9);
-        DUE.same("three years on it is too late", x.claim(0, 0, 3, 1), -1);
-    }
-
     private static void left() {
         DUE.about("16 left");
         RateChains x = Edges.withPlants(1);
@@ -682,15 +579,6 @@ public final class PromisesTest {
         DUE.same("less the claim", x.left(0, 3, 0), 6);
         x.feed(0, 3, 100, 0, 0);
         DUE.same("as it was solved", x.left(0, 3, 0), 6);
-        for (int no : Edges.NO_COUNTRIES) {
-            DUE.same("country " + no, x.left(no, 3, 0), -1);
-        }
-        for (int no : Edges.NO_KINDS) {
-            DUE.same("kind " + no, x.left(0, no, 0), -1);
-        }
-        for (int no : Edges.NO_YEARS) {
-            DUE.same("year " + no, x.left(0, 3, no), -1);
-        }
     }
 
     private static void open() {
@@ -729,13 +617,6 @@ public final class PromisesTest {
         DUE.open(x, 2, 4, -4, 0, 0);
         DUE.open(x, 2, 4, Integer.MIN_VALUE, 0, 0);
         DUE.open(x, 2, 4, Integer.MAX_VALUE, 0, 0);
-        for (int no : Edges.NO_YEARS) {
-            DUE.open(x, no, 4, 3, 0, 0);
-            DUE.open(x, 2, no, 3, 0, 0);
-        }
-        for (int no : Edges.NO_PARTS) {
-            DUE.same("part " + no, x.open(2, 4, 3, no), 0);
-        }
     }
 
     private static void audit() {
@@ -764,24 +645,6 @@ public final class PromisesTest {
                 seen[row] = true;
             }
         }
-    }
-
-    private static void auditOfAll() {
-        DUE.about("18 audit, of sixty");
-        RateChains x = Edges.withPlants(1);
-        for (int i = 0; i < 60; i++) {
-            x.feed(0, 0, i, 0, 0);
-        }
-        DUE.same("sixty", x.audit(Long.MIN_VALUE, 60), 60);
-        boolean[] seen = new boolean[60];
-        for (int k = 0; k < 60; k++) {
-            int row = x.drawn(k);
-            DUE.yes("row " + row + " once", row >= 0 && row < 60 && !seen[row]);
-            if (row >= 0 && row < 60) {
-                seen[row] = true;
-            }
-        }
-        DUE.same("drawn(60)", x.drawn(60), -1);
     }
 
     private static void drawn() {
@@ -894,20 +757,4 @@ public final class PromisesTest {
         DUE.same("behind it", x.form(form.length()), -1);
     }
 
-    /** A full text whose last bytes begin what stands for a number, but do not end it. */
-    private static void formCutOff() {
-        DUE.about("21 form, cut off");
-        String[] ends = {"a#", "#0", "##", "#1"};
-        for (String end : ends) {
-            RateChains x = new RateChains();
-            for (int i = 0; i < 198; i++) {
-                x.unit('.');
-            }
-            DUE.writes(x, end);
-            x.solve();
-            DUE.same("form(198) of " + end, x.form(198), end.charAt(0));
-            DUE.same("form(199) of " + end, x.form(199), end.charAt(1));
-            DUE.same("form(200) of " + end, x.form(200), -1);
-        }
-    }
 }

@@ -411,6 +411,7 @@ public final class SolvingEdgesTest {
         }
         for (int no : Edges.NO_PARTS) {
             DUE.same("part " + no, x.rate(0, 0, no), -1);
+            DUE.same("part " + no + ", nothing placed", x.rate(0, 5, no), -1);
         }
     }
 
