@@ -80,8 +80,7 @@ public final class PromisesTest {
             }
         }
         RateChains x = Edges.withPlants(2);
-        long[] belows = {1, 2, 5, 10};
-        for (long below : belows) {
+        for (long below : Edges.BELOWS) {
             DUE.no("share of the least long", x.share(0, 1, Long.MIN_VALUE, below));
             DUE.no("share of the greatest long", x.share(0, 1, Long.MAX_VALUE, below));
         }
@@ -756,5 +755,4 @@ public final class PromisesTest {
         DUE.same("the last byte", x.form(form.length() - 1), '#');
         DUE.same("behind it", x.form(form.length()), -1);
     }
-
 }
